@@ -945,7 +945,7 @@ public final class WheelTables {
             for (int a = 0; a + 1 < engine.axes; a++) {
                 for (int w = 0; w < engine.wheels; w++) {
                     for (int k = SLIP; k <= JAM; k++) {
-                        if (accountsFor(engine, sheet, row, rows, a, w, k)) {
+                        if (leadAstray(engine, a, w, k) && agreesFrom(engine, sheet, row, rows)) {
                             tellOf(row + 1, a, w, k);
                             return true;
                         }
@@ -963,18 +963,19 @@ public final class WheelTables {
             kind = newKind;
         }
 
-        private boolean accountsFor(Engine engine, Tray sheet, int row, int rows, int a, int w, int k) {
+        /** Lays out what is astray behind the turn of a mishap; false if nothing is, for that explains no more. */
+        private boolean leadAstray(Engine engine, int a, int w, int k) {
             long lost = lostBy(engine, a, w, k);
-            if (lost == 0) {
-                // it changes nothing, and no mishap was not enough
-                return false;
-            }
             Arrays.fill(astray, 0L);
             astray[a] = Differences.within(-lost, engine.all);
             if (k != SLIP && a > 0 && a % 2 == 0) {
                 // an even axis is added on in the same turn, ahead of what slips at the turn's end
                 astray[a - 1] = astray[a];
             }
+            return lost != 0;
+        }
+
+        private boolean agreesFrom(Engine engine, Tray sheet, int row, int rows) {
             for (int i = row; i < rows; i++) {
                 long number = Differences.within(shown[i] + astray[0], engine.all);
                 if (sheet.cut(number) != sheet.at(i)) {

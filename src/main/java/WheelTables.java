@@ -664,19 +664,19 @@ public final class WheelTables {
             }
         }
 
-        /** A turn without mishaps; all is 0 for axes without ends. */
+        /** A turn without mishaps, of numbers from 0 to less than all; all is 0 for axes without ends. */
         static void turnAxes(long[] axis, int axes, long all) {
             int many = Math.min(axes, axis.length);
             for (int to = 0; to + 1 < many; to += 2) {
-                axis[to] = within(axis[to] + axis[to + 1], all);
+                axis[to] = sum(axis[to], axis[to + 1], all);
             }
             for (int to = 1; to + 1 < many; to += 2) {
-                axis[to] = within(axis[to] + axis[to + 1], all);
+                axis[to] = sum(axis[to], axis[to + 1], all);
             }
         }
 
-        static long within(long number, long all) {
-            return all > 0 ? Math.floorMod(number, all) : number;
+        static long sum(long a, long b, long all) {
+            return all > 0 && a + b >= all ? a + b - all : a + b;
         }
 
         /** To the nearest whole number, a half up. */
@@ -967,7 +967,7 @@ public final class WheelTables {
         private boolean leadAstray(Engine engine, int a, int w, int k) {
             long lost = lostBy(engine, a, w, k);
             Arrays.fill(astray, 0L);
-            astray[a] = Differences.within(-lost, engine.all);
+            astray[a] = lost > 0 ? engine.all - lost : -lost;
             if (k != SLIP && a > 0 && a % 2 == 0) {
                 // an even axis is added on in the same turn, ahead of what slips at the turn's end
                 astray[a - 1] = astray[a];
@@ -977,7 +977,7 @@ public final class WheelTables {
 
         private boolean agreesFrom(Engine engine, Tray sheet, int row, int rows) {
             for (int i = row; i < rows; i++) {
-                long number = Differences.within(shown[i] + astray[0], engine.all);
+                long number = Differences.sum(shown[i], astray[0], engine.all);
                 if (sheet.cut(number) != sheet.at(i)) {
                     return false;
                 }

@@ -153,7 +153,17 @@ final class ExplainTest {
         due.done(x, "thirds: 0, 0, 0", x.finer(1, 1, 3, 2), 0);
         due.done(x, "thirds: 0, 0, 1", x.finer(1, 1, 3, 3), 1);
         due.done(x, "thirds up to 14 by 3", x.finer(1, 1, 3, 15), 2);
+        // these were worked out with exact fractions beside the program
+        fill(x, 1, 2, 0, 1, 16, 81, 256);
+        due.done(x, "fourth powers by halves", x.finer(1, 4, 2, 60), 3);
+        due.done(x, "fourth powers by thirds", x.finer(1, 4, 3, 20), 4);
+        due.refused(x, "more of them need more than 6", x.finer(1, 4, 3, 60), 8);
+        fill(x, 1, 2, 3, 1, 4, 1);
+        due.done(x, "just 6", x.finer(1, 3, 3, 60), 6);
+        fill(x, 1, 2, 0, 0, 1, 0, 0);
+        due.done(x, "by nineteenths", x.finer(1, 4, 19, 60), 6);
         fill(x, 1, 2, 10000, -10000, 10000, -10000, 10000);
+        due.done(x, "the greatest values", x.finer(1, 4, 3, 60), 6);
         due.refused(x, "more than 6", x.finer(1, 4, 19, 60), 8);
     }
 

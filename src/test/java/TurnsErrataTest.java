@@ -116,6 +116,18 @@ final class TurnsErrataTest {
         x = table(10, 10, 21, 12, 10, 10);
         due.done(x, "one is enough", x.errata(0, 6, 1, 2), 1);
         found(x, 2, 11);
+        x = table(1, 8, 27, 64, 152, 261, 343, 512, 729, 1000);
+        due.done(x, "two exchanges side by side", x.errata(0, 10, 4, 0), 2);
+        found(x, 4, 125, 5, 216);
+        long[] twenty = new long[20];
+        for (int i = 0; i < 20; i++) {
+            twenty[i] = 90000000 + i * i;
+        }
+        twenty[18] = 80000324;
+        twenty[19] = 90000316;
+        x = table(twenty);
+        due.done(x, "at the end of twenty", x.errata(0, 20, 3, 0), 2);
+        found(x, 18, 90000324, 19, 90000361);
         x = table(100, 200, 300, 333, 411, 600, 700);
         due.refused(x, "two figures of one value", x.errata(0, 7, 2, 0), 8);
     }

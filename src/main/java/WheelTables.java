@@ -646,17 +646,23 @@ public final class WheelTables {
         private Differences() {
         }
 
-        /**
-         * Values at 0, 1 .. become what the axes show at 0. The even axes move ahead of the odd ones in a turn,
-         * so two axes each stand one step further back in the table: axis j is the j-th difference at -(j / 2).
-         */
-        static void toAxes(long[] values, int n) {
+        /** Values at 0, 1 .. become the differences of each order at 0. */
+        static void atZero(long[] values, int n) {
             int many = Math.min(n, values.length);
             for (int order = 1; order < many; order++) {
                 for (int j = many - 1; j >= order; j--) {
                     values[j] -= values[j - 1];
                 }
             }
+        }
+
+        /**
+         * Values at 0, 1 .. become what the axes show at 0. The even axes move ahead of the odd ones in a turn,
+         * so two axes each stand one step further back in the table: axis j is the j-th difference at -(j / 2).
+         */
+        static void toAxes(long[] values, int n) {
+            int many = Math.min(n, values.length);
+            atZero(values, many);
             for (int first = 2; first < many; first += 2) {
                 for (int j = many - 2; j >= first; j--) {
                     values[j] -= values[j + 1];
@@ -1020,11 +1026,7 @@ public final class WheelTables {
             for (int i = 0; i <= k; i++) {
                 differences[i] = values.at(i);
             }
-            for (int order = 1; order <= k; order++) {
-                for (int j = k; j >= order; j--) {
-                    differences[j] -= differences[j - 1];
-                }
-            }
+            Differences.atZero(differences, k + 1);
             long scale = 1;
             for (int j = 1; j <= k; j++) {
                 scale *= (long) m * j;

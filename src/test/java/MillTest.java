@@ -1,5 +1,3 @@
-import java.nio.charset.StandardCharsets;
-
 /** Promises 19 to 25: feed, cards, fault, run, ran, printed, place. */
 final class MillTest {
     private static final Due due = new Due();
@@ -24,15 +22,8 @@ final class MillTest {
         due.end();
     }
 
-    /** Feeds a text in full ints; what is behind it on the tape are blanks. */
     private static void feed(WheelTables x, String text) {
-        byte[] bytes = text.getBytes(StandardCharsets.ISO_8859_1);
-        for (int at = 0; at < bytes.length; at += 20) {
-            int[] w = new int[5];
-            for (int i = 0; i < 20; i++) {
-                int b = at + i < bytes.length ? bytes[at + i] & 255 : 32;
-                w[i / 4] |= b << 24 - 8 * (i % 4);
-            }
+        for (int[] w : Tape.feeds(text)) {
             x.feed(w[0], w[1], w[2], w[3], w[4]);
         }
     }

@@ -1,4 +1,3 @@
-import java.nio.charset.StandardCharsets;
 import java.util.Random;
 
 /** Runs of calls drawn at random (always the same ones), held against PlainWorks: all promises. */
@@ -154,13 +153,7 @@ final class RandomRunsTest {
     }
 
     private void feed(String text) {
-        byte[] bytes = text.getBytes(StandardCharsets.ISO_8859_1);
-        for (int at = 0; at < bytes.length; at += 20) {
-            int[] w = new int[5];
-            for (int i = 0; i < 20; i++) {
-                int b = at + i < bytes.length ? bytes[at + i] & 255 : 32;
-                w[i / 4] |= b << 24 - 8 * (i % 4);
-            }
+        for (int[] w : Tape.feeds(text)) {
             same("feed of " + text, x.feed(w[0], w[1], w[2], w[3], w[4]), plain.feed(w));
         }
     }

@@ -102,6 +102,12 @@ final class MillTest {
         good("print 0;back 1if up;", 2);
         faulty("putt 0 1;", 2, 0);
         faulty("pu t 0 1;", 2, 0);
+        faulty("z", 2, 0);
+        faulty("put 0 az;", 2, 6);
+        faulty("{", 1, 0);
+        faulty("`", 1, 0);
+        faulty("/", 1, 0);
+        faulty("put 0 9:", 1, 7);
         faulty("Put 0 1;", 1, 0);
         faulty("put\t0 1;", 1, 3);
         faulty("put 0 1\r;", 1, 7);

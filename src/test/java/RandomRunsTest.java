@@ -26,6 +26,7 @@ final class RandomRunsTest {
             new RandomRunsTest(due, "trays " + i, more + i).trays();
             new RandomRunsTest(due, "engines " + i, more + 1000 + i).engines();
             new RandomRunsTest(due, "explain " + i, more + 2000 + i).explanations();
+            new RandomRunsTest(due, "far axes " + i, more + 2500 + i).explanationsOfFarAxes();
             new RandomRunsTest(due, "finer " + i, more + 3000 + i).finerTables();
             new RandomRunsTest(due, "mill " + i, more + 4000 + i).mill();
             new RandomRunsTest(due, "turns " + i, more + 5000 + i).turns();
@@ -303,6 +304,28 @@ final class RandomRunsTest {
                 turn(0, ahead);
             }
             explain(0, 2, rows);
+        }
+    }
+
+    /** Mishaps of axes that come to axis 0 only turns later, and all axes move. */
+    private void explanationsOfFarAxes() {
+        begin();
+        int axes = from(5, 7);
+        int wheels = from(2, 5);
+        tray(0, 0, wheels);
+        for (int i = 0; i < wheels; i++) {
+            write(0, i, from(4, 12));
+        }
+        engine(axes, wheels, 0);
+        tray(2, from(1, 3), 9);
+        while (goesOn()) {
+            fillTray(1, 3, axes, 100000000);
+            same("mend(0)", x.mend(0), plain.mend(0));
+            set(0, 1, axes);
+            mishap(0, from(1, 4), from(1, axes - 2), from(0, wheels - 1), from(0, 2));
+            sheet(0, 2, 9);
+            set(0, 1, axes);
+            explain(0, 2, 9);
         }
     }
 

@@ -100,6 +100,9 @@ final class TurnsErrataTest {
         due.done(x, "the highest figure", x.errata(0, 8, 3, 0), 1);
         found(x, 4, 16);
         x.write(0, 4, 16);
+        WheelTables unlike = table(89765432, 89765432, 98765432, 89765432);
+        due.done(unlike, "the two highest of eight unlike figures", unlike.errata(0, 4, 1, 0), 1);
+        found(unlike, 2, 89765432);
         x.write(0, 7, 94);
         due.done(x, "the last value", x.errata(0, 8, 3, 0), 1);
         found(x, 7, 49);

@@ -1,13 +1,39 @@
+import java.io.IOException;
+import java.io.UncheckedIOException;
+import java.nio.charset.StandardCharsets;
+import java.nio.file.Files;
+import java.nio.file.Path;
+
 /** Counts the answers that are not as due, and prints them. */
 final class Due {
+    private String document;
+    private String sentence = "";
     private int asked;
     private int wrong;
+
+    /** Words of the document that the answers behind this hold; they must stand there, sign for sign. */
+    void sentence(String words) {
+        sentence = words;
+        is("these words stand in the document", document().contains(words), true);
+    }
+
+    private String document() {
+        if (document == null) {
+            try {
+                document = Files.readString(Path.of("../shared/DOC.md"), StandardCharsets.UTF_8);
+            } catch (IOException e) {
+                throw new UncheckedIOException(e);
+            }
+        }
+        return document;
+    }
 
     void is(String call, long got, long want) {
         asked++;
         if (got != want) {
             wrong++;
-            System.out.println("  " + call + " answered " + got + ", due is " + want);
+            System.out.println("  " + call + " answered " + got + ", due is " + want
+                + (sentence.isEmpty() ? "" : " ['" + sentence + "']"));
         }
     }
 

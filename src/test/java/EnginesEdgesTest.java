@@ -17,6 +17,7 @@ final class EnginesEdgesTest {
         slips();
         sticks();
         jams();
+        severalOfOneWheel();
         mishapsInReach();
         twentyMishaps();
         toldAhead();
@@ -312,6 +313,35 @@ final class EnginesEdgesTest {
         numbers(x, "axis 1 jams when 2 is added to it, not when it is added to 0", 4, 4, 3);
     }
 
+    private static void severalOfOneWheel() {
+        due.sentence("A TURN's MISHAPS are those told ahead of it.");
+        for (int order = 0; order < 2; order++) {
+            WheelTables x = Works.with(2, 10, 10, 10);
+            Works.lay(x, 0, 0, 9, 5, 0);
+            Works.lay(x, 0, 1, 9, 9, 0);
+            x.mishap(0, 1, 0, 1, 1 + order);
+            x.mishap(0, 1, 0, 1, 2 - order);
+            x.turn(0, 1);
+            numbers(x, "59 and 99, stuck and jammed", 58, 99);
+            x.turn(0, 1);
+            numbers(x, "58 and 99, free again", 157, 99);
+        }
+        WheelTables x = Works.with(2, 10, 10);
+        Works.lay(x, 0, 0, 9, 5);
+        Works.lay(x, 0, 1, 9, 9);
+        for (int kind = 0; kind < 3; kind++) {
+            x.mishap(0, 1, 0, 1, kind);
+        }
+        x.mishap(0, 1, 0, 0, 0);
+        x.turn(0, 1);
+        numbers(x, "all three of wheel 1, and a slip of wheel 0", 47, 99);
+        x = Works.with(2, 10);
+        x.mishap(0, 1, 0, 0, 0);
+        x.mishap(0, 1, 0, 0, 0);
+        x.turn(0, 1);
+        numbers(x, "two slips of one wheel are two", 8);
+    }
+
     private static void mishapsInReach() {
         due.sentence("in a TURN (1 to 1,000), of an AXIS but the last, a wheel");
         WheelTables x = Works.with(4, 10, 10, 10);
@@ -484,6 +514,15 @@ final class EnginesEdgesTest {
         due.done(x, "the sixth difference alone", x.set(0, 1, 7));
         // t choose 6, with the differences t choose 6 - j; axes 2 and 3 stand at -1, axes 4 and 5 at -2
         numbers(x, "needs all", 0, 0, 1, 999, 3, 998, 1);
+        due.done(x, "from three of these", x.set(0, 1, 3));
+        numbers(x, "needs none", 0, 0, 0, 0, 0, 0, 0);
+        Works.fill(x, 1, 3, 8, 3, 1, 4, 1, 5, 9);
+        x.set(0, 1, 7);
+        due.done(x, "from one, behind seven", x.set(0, 1, 1));
+        numbers(x, "needs one", 8, 0, 0, 0, 0, 0, 0);
+        x.set(0, 1, 7);
+        due.done(x, "from three, behind seven", x.set(0, 1, 3));
+        numbers(x, "needs three", 8, 995, 3, 0, 0, 0, 0);
     }
 
     private static void turnIsZeroThen() {

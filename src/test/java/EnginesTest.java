@@ -19,18 +19,11 @@ final class EnginesTest {
         due.end();
     }
 
-    private static WheelTables with(int axes, int... radix) {
+    private static WheelTables with(int axes, long... radix) {
         WheelTables x = new WheelTables();
-        fill(x, 0, radix);
+        Works.fill(x, 0, 3, radix);
         due.done(x, "engine", x.engine(axes, radix.length, 0), 0);
         return x;
-    }
-
-    private static void fill(WheelTables x, int tray, int... numbers) {
-        x.tray(tray, 3, numbers.length);
-        for (int i = 0; i < numbers.length; i++) {
-            x.write(tray, i, numbers[i]);
-        }
     }
 
     private static void numbers(WheelTables x, String when, long... want) {
@@ -43,7 +36,7 @@ final class EnginesTest {
         WheelTables x = new WheelTables();
         due.refused(x, "no such tray", x.engine(1, 0, 4), 1);
         due.refused(x, "a missing tray", x.engine(1, 0, 0), 3);
-        fill(x, 0, 2, 12, 13, 1);
+        Works.fill(x, 0, 3, 2, 12, 13, 1);
         due.refused(x, "one axis", x.engine(1, 2, 0), 5);
         due.refused(x, "eight axes", x.engine(8, 2, 0), 5);
         due.refused(x, "no wheels", x.engine(2, 0, 0), 5);
@@ -85,11 +78,11 @@ final class EnginesTest {
 
     private static void setsUp() {
         WheelTables x = with(7, 10, 10, 10, 10, 10, 10, 10, 10, 10);
-        int[] sixth = new int[7];
+        long[] sixth = new long[7];
         for (int i = 0; i < 7; i++) {
-            sixth[i] = i * i * i * i * i * i;
+            sixth[i] = (long) i * i * i * i * i * i;
         }
-        fill(x, 1, sixth);
+        Works.fill(x, 1, 3, sixth);
         x.put(0, 6, 8, 5);
         due.done(x, "set from seven", x.set(0, 1, 7));
         // such as axis 3: 64 - 3 * 1 + 3 * 0 - 1, the third difference at -1
@@ -101,7 +94,7 @@ final class EnginesTest {
         due.done(x, "set from one", x.set(0, 1, 1));
         numbers(x, "all others are 0", 0, 0, 0, 0, 0, 0, 0);
         due.done(x, "the turn is 0 behind set", x.turn(0, 1), 1);
-        fill(x, 1, 4, 4, 5);
+        Works.fill(x, 1, 3, 4, 4, 5);
         due.done(x, "set from three", x.set(0, 1, 3));
         numbers(x, "three", 4, 0, 1, 0);
     }
@@ -109,7 +102,7 @@ final class EnginesTest {
     private static void setsUpTheGreatest() {
         WheelTables x = with(7, 12, 12, 12, 12, 12, 12, 12, 12, 12, 12, 12, 12);
         int g = 1000000000;
-        fill(x, 1, g, -g, g, -g, g, -g, g);
+        Works.fill(x, 1, 3, g, -g, g, -g, g, -g, g);
         due.done(x, "set from the greatest", x.set(0, 1, 7));
         long all = 8916100448256L;
         long[] values = {g, -g, g, -g, g, -g, g};
@@ -122,7 +115,7 @@ final class EnginesTest {
 
     private static void refusesToSetUp() {
         WheelTables x = with(3, 10, 10);
-        fill(x, 1, 1, 2, 3);
+        Works.fill(x, 1, 3, 1, 2, 3);
         x.set(0, 1, 3);
         due.refused(x, "no such tray, no such engine", x.set(9, 4, 1), 1);
         due.refused(x, "no such engine, a missing tray", x.set(1, 3, 1), 2);
@@ -159,7 +152,7 @@ final class EnginesTest {
 
     private static void slips() {
         WheelTables x = with(3, 10, 10);
-        fill(x, 1, 0, 1, 4);
+        Works.fill(x, 1, 3, 0, 1, 4);
         x.set(0, 1, 3);
         due.done(x, "slip of axis 1", x.mishap(0, 1, 1, 0, 0));
         due.done(x, "slip of axis 0", x.mishap(0, 2, 0, 1, 0));
@@ -220,7 +213,7 @@ final class EnginesTest {
         due.done(x, "a mishap of a turn that is gone", x.mishap(0, 3, 0, 0, 0));
         x.turn(0, 1);
         numbers(x, "has no effect", 0, 0);
-        fill(x, 1, 5);
+        Works.fill(x, 1, 3, 5);
         x.set(0, 1, 1);
         x.turn(0, 4);
         numbers(x, "until the turn comes again", 4, 0);
@@ -268,7 +261,7 @@ final class EnginesTest {
 
     private static void printsSheets() {
         WheelTables x = with(2, 10, 10, 10);
-        fill(x, 1, 100, 150);
+        Works.fill(x, 1, 3, 100, 150);
         x.set(0, 1, 2);
         x.mishap(0, 3, 0, 0, 0);
         x.tray(2, 0, 4);

@@ -1,5 +1,7 @@
 /** The edges of explain, because and finer, sentence by sentence: promises 16 to 18, and their "Terms". */
 final class ExplainEdgesTest {
+    /** Seven axes in which carries come to many wheels, and stay away from others. */
+    private static final int[][] FIGURES = {{8, 9, 3}, {7, 5, 6}, {9, 4, 8}, {6, 9, 1}, {5, 8, 7}, {2, 3, 2}, {4, 6, 5}};
     private static final Due due = new Due();
 
     public static void main(String[] args) {
@@ -10,15 +12,19 @@ final class ExplainEdgesTest {
         theFirstByAxis();
         theFirstByWheel();
         theFirstByKind();
+        everyAxisWheelAndKind();
+        roundAll();
         asIfNoneWereTold();
         numbersCutToTheSort();
         lastAxis();
+        enginesOneAfterTheOther();
         engineStays();
         behindTheLastTurn();
         whatExplainToldLatest();
         finerInReach();
         finerNumbers();
         halfUp();
+        tablesOneAfterTheOther();
         leastFigures();
         due.end();
     }
@@ -144,6 +150,95 @@ final class ExplainEdgesTest {
         explained(x, "a slip, ahead of a 1 that jams", 1, 1, 0, 1, 0);
     }
 
+    /** What each mishap of seven axes does to a sheet, and how PlainWorks, which tries all, explains it. */
+    private static void everyAxisWheelAndKind() {
+        due.sentence("by one MISHAP: the first, by TURN (those to come: 1 for the next ..), AXIS, wheel, kind");
+        int[] told = new int[3];
+        for (int axis = 0; axis < 6; axis++) {
+            for (int i = 0; i < 18; i++) {
+                long by = explainedAsPlainly(1 + i / 9, axis, i % 9 / 3, i % 3);
+                if (by != -1) {
+                    told[(int) by]++;
+                }
+            }
+        }
+        for (int kind = 0; kind < 3; kind++) {
+            due.is("some are of kind " + kind, told[kind] > 2, true);
+        }
+    }
+
+    /** The kind that is told; -1 if none is. */
+    private static long explainedAsPlainly(int turn, int axis, int wheel, int kind) {
+        WheelTables x = sevenAxes();
+        x.mishap(0, turn, axis, wheel, kind);
+        x.tray(2, 3, 8);
+        x.sheet(0, 2, 8);
+        WheelTables y = sevenAxes();
+        PlainWorks plain = plainSevenAxes();
+        y.tray(2, 3, 8);
+        plain.tray(2, 3, 8);
+        for (int row = 0; row < 8; row++) {
+            y.write(2, row, x.read(2, row));
+            plain.write(2, row, x.read(2, row));
+        }
+        String of = "turn " + turn + ", axis " + axis + ", wheel " + wheel + ", kind " + kind;
+        due.is(of + ": explained", y.explain(0, 2, 8), plain.explain(0, 2, 8));
+        for (int what = 0; what < 4; what++) {
+            due.is(of + ": because(" + what + ")", y.because(what), plain.because(what));
+        }
+        return plain.because(3);
+    }
+
+    private static WheelTables sevenAxes() {
+        WheelTables x = Works.with(7, 10, 10, 10);
+        for (int i = 0; i < 21; i++) {
+            x.put(0, i / 3, i % 3, FIGURES[i / 3][i % 3]);
+        }
+        return x;
+    }
+
+    private static PlainWorks plainSevenAxes() {
+        PlainWorks plain = new PlainWorks();
+        plain.tray(0, 3, 3);
+        for (int i = 0; i < 3; i++) {
+            plain.write(0, i, 10);
+        }
+        plain.engine(7, 3, 0);
+        for (int i = 0; i < 21; i++) {
+            plain.put(0, i / 3, i % 3, FIGURES[i / 3][i % 3]);
+        }
+        return plain;
+    }
+
+    private static void roundAll() {
+        due.sentence("ALL is one more than the greatest.");
+        WheelTables x = Works.with(2, 10, 10);
+        Works.lay(x, 0, 0, 5, 9);
+        Works.lay(x, 0, 1, 3);
+        // 98, 1 and 4 without a mishap; wheel 0 slips to 97
+        Works.fill(x, 2, 3, 97, 0, 3);
+        explained(x, "over ALL behind a slip", 3, 1, 0, 0, 0);
+        // wheel 1 slips from 0 to 9
+        Works.fill(x, 2, 3, 98, 91, 94, 97, 0);
+        explained(x, "over ALL behind a slip from 0", 5, 2, 0, 1, 0);
+        x = Works.with(3, 10, 10);
+        Works.lay(x, 0, 1, 0, 1);
+        // axis 1 slips from 10 to 00, or its wheel 0 from 10 to 19
+        Works.fill(x, 2, 3, 10, 10, 10, 10);
+        explained(x, "an axis that stands still", 4, 1, 1, 1, 0);
+        Works.fill(x, 2, 3, 10, 29, 48, 67, 86, 5, 24);
+        explained(x, "nine more in each turn, over ALL", 7, 1, 1, 0, 0);
+        x = Works.with(2, 10, 10);
+        Works.lay(x, 0, 0, 9, 9);
+        Works.lay(x, 0, 1, 9, 9);
+        Works.fill(x, 2, 3, 98, 97, 86, 85);
+        explained(x, "a slip, among numbers that fall", 4, 3, 0, 1, 0);
+        Works.fill(x, 2, 3, 98, 97, 6, 5);
+        explained(x, "a 9 that jams on wheel 1", 4, 3, 0, 1, 2);
+        Works.fill(x, 2, 3, 98, 97, 96, 95);
+        due.done(x, "and none", x.explain(0, 2, 4), 0);
+    }
+
     private static void asIfNoneWereTold() {
         due.sentence("as if no MISHAPS were told");
         WheelTables x = squares();
@@ -188,6 +283,19 @@ final class ExplainEdgesTest {
         Works.lay(x, 0, 1, 3);
         Works.fill(x, 2, 3, 3, 5, 7);
         explained(x, "it is not the last of three", 3, 1, 1, 0, 0);
+    }
+
+    private static void enginesOneAfterTheOther() {
+        due.sentence("by an ENGINE as it stands");
+        WheelTables x = sevenAxes();
+        for (int axes = 6; axes >= 2; axes -= 2) {
+            Works.fill(x, 1, 3, 10, 10, 10);
+            int engine = x.engine(axes, 3, 1);
+            x.put(engine, 0, 0, 5);
+            Works.fill(x, 2, 3, 5, 5, 5, 5);
+            due.refused(x, "the engine of seven axes", x.explain(0, 2, 4), 8);
+            due.done(x, "one of " + axes + " axes that stand still", x.explain(engine, 2, 4), 0);
+        }
     }
 
     private static void engineStays() {
@@ -316,6 +424,22 @@ final class ExplainEdgesTest {
         due.sentence("8: more than 6; in this order).");
         Works.fill(x, 0, 1, 0, -10000);
         due.done(x, "without ends, below 0 too", x.finer(0, 1, 2, 60), 0);
+    }
+
+    private static void tablesOneAfterTheOther() {
+        due.sentence("by the polynomial of degree k at most through them");
+        WheelTables x = new WheelTables();
+        Works.fill(x, 0, 1, 10000, -9999, 9998, -9997, 9996);
+        for (int k = 1; k <= 3; k++) {
+            x.finer(0, 4, 19, 60);
+            Works.fill(x, 1, 1, 7, 7, 7, 7, 7);
+            due.done(x, "a table that stands still, k of " + k, x.finer(1, k, 19, 60), 0);
+            x.finer(0, 4, 19, 60);
+            Works.fill(x, 1, 1, 0, 1, 2, 3, 4);
+            due.done(x, "thirds, k of " + k, x.finer(1, k, 3, 3), 1);
+        }
+        Works.fill(x, 1, 1, 0, 1, 2, 9999);
+        due.done(x, "values behind the first k and 1 are not asked for", x.finer(1, 2, 3, 3), 1);
     }
 
     private static void leastFigures() {

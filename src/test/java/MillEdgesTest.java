@@ -14,6 +14,7 @@ final class MillEdgesTest {
         noCards();
         cardsOfEveryKind();
         places();
+        words();
         wholes();
         firstFault();
         noTokenBeginsSo();
@@ -23,6 +24,7 @@ final class MillEdgesTest {
         numbersThatCannotBe();
         leadsTooFar();
         textStays();
+        textsOneAfterTheOther();
         latestFault();
         startsAnew();
         reckonsToTheMost();
@@ -252,6 +254,36 @@ final class MillEdgesTest {
         faulty("print 4294967296;", 4, 6);
     }
 
+    /** Every word with one letter less, one more, and another one in every place of it. */
+    private static void words() {
+        due.sentence("WORDS (small letters), NUMBERS (1 to 12 digits)");
+        String[] cards = {"put 0 1;", "add 0 0 0;", "sub 0 0 0;", "mul 0 0 0;", "div 0 0 0 0;", "print 0;", "on 1;"};
+        for (String card : cards) {
+            int end = card.indexOf(' ');
+            good(card, 1);
+            faulty(card.substring(1), 2, 0);
+            faulty(card.charAt(0) + card, 2, 0);
+            faulty(card.substring(0, end) + "s" + card.substring(end), 2, 0);
+            for (int i = 0; i < end; i++) {
+                faulty(card.substring(0, i) + "z" + card.substring(i + 1), 2, 0);
+            }
+        }
+        String lead = "print 0;back 1 if down;";
+        good(lead, 2);
+        good("print 0;back 1 if up;", 2);
+        for (int at : new int[] {8, 9, 10, 11}) {
+            faulty(lead.substring(0, at) + "z" + lead.substring(at + 1), 2, 8);
+        }
+        for (int at : new int[] {15, 16}) {
+            faulty(lead.substring(0, at) + "z" + lead.substring(at + 1), 2, 15);
+        }
+        for (int at : new int[] {18, 19, 20, 21}) {
+            faulty(lead.substring(0, at) + "z" + lead.substring(at + 1), 2, 18);
+        }
+        faulty("print 0;back 1 if zp;", 2, 18);
+        faulty("print 0;back 1 if uz;", 2, 18);
+    }
+
     private static void wholes() {
         due.sentence("WHOLE: [-] NUMBER.");
         String[] wholes = {"0", "-0", "1", "-1", MOST, "-" + MOST, "- 7", "000000000005"};
@@ -409,6 +441,29 @@ final class MillEdgesTest {
         due.done(x, "and one done", x.ran(3), 1);
     }
 
+    /** A text is made of its own cards alone, whatever was read before it. */
+    private static void textsOneAfterTheOther() {
+        due.sentence("The first n bytes of the tape (which is empty then, but for 5) are the TEXT");
+        WheelTables x = new WheelTables();
+        for (int i = 0; i < 3; i++) {
+            due.done(x, "leads with a lever", Works.cards(x, "on 2 if up; on 1 if down; print 7; put 7 -3;"), 4);
+            due.done(x, "run", x.run(), 1);
+            account(x, "leads with a lever", 2, 0, -1, 4);
+            due.refused(x, "a fault", Works.cards(x, "on 1 if up; on 1 if up; on 1 if up; #"), 10);
+            due.done(x, "leads without one", Works.cards(x, "on 2; print 0; on 2; print 0;"), 4);
+            due.done(x, "run", x.run(), 0);
+            account(x, "leads without a lever", 0, 0, -1, 2);
+            due.refused(x, "a fault of the lever", Works.cards(x, "put 3 -5; on 1 if down; on 1 if"), 10);
+            due.done(x, "other places", Works.cards(x, "div 1 2 3 4; on 1;"), 2);
+            due.done(x, "run", x.run(), 0);
+            account(x, "div by 0", 0, 2, 0, 0);
+            due.done(x, "no cards", x.cards(0), 0);
+            due.done(x, "run", x.run(), 0);
+            account(x, "no cards", 0, 0, -1, 0);
+            due.done(x, "what was put before is gone", x.place(7), 0);
+        }
+    }
+
     private static void latestFault() {
         due.sentence("Of the latest cards() with STATUS 0 or 10, what 0: the FAULT (0 without one),"
             + " 1: its place (NONE without).");
@@ -553,6 +608,11 @@ final class MillEdgesTest {
             account(x, card, 6, 1, 6, 6);
             due.done(x, "C stays", x.place(9), 77);
         }
+        // 2 to the 33 by 2 to the 31, and 2 to the 32 squared, are 0 in 64 bits
+        account(ran("put 0 8589934592; put 1 2147483648; mul 0 1 9;", 0), "2 to the 64", 2, 1, 2, 2);
+        account(ran("put 0 2147483648; put 1 8589934592; mul 0 1 9;", 0), "2 to the 64 again", 2, 1, 2, 2);
+        account(ran("put 0 -4294967296; mul 0 0 9;", 0), "2 to the 32, squared", 1, 1, 1, 1);
+        account(ran("put 0 4294967296; put 1 8589934591; mul 0 1 9;", 0), "2 to the 65 less 2 to the 32", 2, 1, 2, 2);
         String one = "put 0 999999; put 1 1000002; put 2 -1000002;";
         account(ran(one + "mul 0 1 9;", 0), "1,000,000,999,998", 3, 1, 3, 3);
         account(ran(one + "mul 2 0 9;", 0), "1,000,000,999,998 below 0", 3, 1, 3, 3);

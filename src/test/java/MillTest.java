@@ -22,34 +22,23 @@ final class MillTest {
         due.end();
     }
 
-    private static void feed(WheelTables x, String text) {
-        for (int[] w : Tape.feeds(text)) {
-            x.feed(w[0], w[1], w[2], w[3], w[4]);
-        }
-    }
-
-    private static int cards(WheelTables x, String text) {
-        feed(x, text);
-        return x.cards(text.length());
-    }
-
     private static void good(String text, int count) {
         WheelTables x = new WheelTables();
-        due.done(x, "cards of '" + text + "'", cards(x, text), count);
+        due.done(x, "cards of '" + text + "'", Works.cards(x, text), count);
         due.is("fault(0) of '" + text + "'", x.fault(0), 0);
         due.is("fault(1) of '" + text + "'", x.fault(1), -1);
     }
 
     private static void faulty(String text, int kind, int place) {
         WheelTables x = new WheelTables();
-        due.refused(x, "cards of '" + text + "'", cards(x, text), 10);
+        due.refused(x, "cards of '" + text + "'", Works.cards(x, text), 10);
         due.is("fault(0) of '" + text + "'", x.fault(0), kind);
         due.is("fault(1) of '" + text + "'", x.fault(1), place);
     }
 
     private static WheelTables ran(String text, int prints) {
         WheelTables x = new WheelTables();
-        cards(x, text);
+        Works.cards(x, text);
         due.is("status() of '" + text + "'", x.status(), 0);
         due.done(x, "run of '" + text + "'", x.run(), prints);
         return x;
@@ -191,8 +180,8 @@ final class MillTest {
 
     private static void keepsTheText() {
         WheelTables x = new WheelTables();
-        cards(x, "put 3 7; print 3;");
-        due.refused(x, "a fault", cards(x, "put 3 8; print 3; print"), 10);
+        Works.cards(x, "put 3 7; print 3;");
+        due.refused(x, "a fault", Works.cards(x, "put 3 8; print 3; print"), 10);
         due.is("fault(0)", x.fault(0), 2);
         due.done(x, "the text stays", x.run(), 1);
         due.done(x, "what it prints", x.printed(0), 7);
@@ -201,7 +190,7 @@ final class MillTest {
         due.is("fault(1) stays with 5", x.fault(1), 23);
         due.is("fault(2)", x.fault(2), -1);
         due.is("fault(-1)", x.fault(-1), -1);
-        due.done(x, "a new text", cards(x, "put 3 9;"), 1);
+        due.done(x, "a new text", Works.cards(x, "put 3 9;"), 1);
         due.done(x, "the latest run stays till the next one", x.printed(0), 7);
         due.done(x, "its places, too", x.place(3), 7);
         due.done(x, "its account, too", x.ran(3), 2);
@@ -329,7 +318,7 @@ final class MillTest {
         due.refused(x, "printed(0) ahead of any", x.printed(0), 8);
         due.refused(x, "place(0) ahead of any", x.place(0), 8);
         due.refused(x, "place(20) ahead of any", x.place(20), 2);
-        cards(x, "put 0 -1; print 0;");
+        Works.cards(x, "put 0 -1; print 0;");
         due.refused(x, "place(0) ahead of a run", x.place(0), 8);
         x.run();
         due.refused(x, "ran(-1)", x.ran(-1), 5);

@@ -75,6 +75,13 @@ final class TurnsErrataEdgesTest {
         }
         figures(new WheelTables(), 10, 0, 1);
         figures(new WheelTables(), 11, 1, 1);
+        figures(new WheelTables(), 19, -1, 2);
+        figures(new WheelTables(), 49, -1, 5);
+        figures(new WheelTables(), 59, -1, -4, 1);
+        figures(new WheelTables(), 88, -2, -1, 1);
+        figures(new WheelTables(), 89, -1, -1, 1);
+        figures(new WheelTables(), 199, -1, 0, 2);
+        figures(new WheelTables(), 908, -2, 1, -1, 1);
         figures(new WheelTables(), 99, -1, 0, 1);
         figures(new WheelTables(), 100, 0, 0, 1);
         figures(new WheelTables(), 101, 1, 0, 1);

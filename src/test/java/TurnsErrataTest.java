@@ -59,10 +59,7 @@ final class TurnsErrataTest {
 
     private static WheelTables table(long... values) {
         WheelTables x = new WheelTables();
-        x.tray(0, 3, values.length);
-        for (int i = 0; i < values.length; i++) {
-            x.write(0, i, values[i]);
-        }
+        Works.fill(x, 0, 3, values);
         return x;
     }
 

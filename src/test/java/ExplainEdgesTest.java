@@ -1,8 +1,7 @@
 /** The edges of explain, because and finer, sentence by sentence: promises 16 to 18, and their "Terms". */
-final class ExplainEdgesTest {
+final class ExplainEdgesTest extends SheetAsks {
     /** Seven axes in which carries come to many wheels, and stay away from others. */
     private static final int[][] FIGURES = {{8, 9, 3}, {7, 5, 6}, {9, 4, 8}, {6, 9, 1}, {5, 8, 7}, {2, 3, 2}, {4, 6, 5}};
-    private static final Due due = new Due();
 
     public static void main(String[] args) {
         rowsOfASheet();
@@ -27,22 +26,6 @@ final class ExplainEdgesTest {
         tablesOneAfterTheOther();
         leastFigures();
         due.end();
-    }
-
-    private static void explained(WheelTables x, String by, int rows, int turn, int axis, int wheel, int kind) {
-        due.done(x, by, x.explain(0, 2, rows), 1);
-        due.done(x, by + ": turn", x.because(0), turn);
-        due.done(x, by + ": axis", x.because(1), axis);
-        due.done(x, by + ": wheel", x.because(2), wheel);
-        due.done(x, by + ": kind", x.because(3), kind);
-    }
-
-    /** Three axes with three wheels of ten that turn out 1, 4, 9, 16 .. */
-    private static WheelTables squares() {
-        WheelTables x = Works.with(3, 10, 10, 10);
-        Works.fill(x, 1, 3, 0, 1, 4);
-        x.set(0, 1, 3);
-        return x;
     }
 
     private static void rowsOfASheet() {

@@ -1,7 +1,5 @@
 /** Promises 16 to 18: explain, because, finer. */
-final class ExplainTest {
-    private static final Due due = new Due();
-
+final class ExplainTest extends SheetAsks {
     public static void main(String[] args) {
         explainsEveryKind();
         takesTheFirst();
@@ -14,24 +12,6 @@ final class ExplainTest {
         roundsAHalfUp();
         refusesFinerTables();
         due.end();
-    }
-
-    /** Squares on three axes with three wheels of ten: 1, 4, 9, 16 .. */
-    private static WheelTables squares() {
-        WheelTables x = new WheelTables();
-        Works.fill(x, 0, 0, 10, 10, 10);
-        x.engine(3, 3, 0);
-        Works.fill(x, 1, 3, 0, 1, 4);
-        x.set(0, 1, 3);
-        return x;
-    }
-
-    private static void explained(WheelTables x, String by, int rows, int turn, int axis, int wheel, int kind) {
-        due.done(x, by, x.explain(0, 2, rows), 1);
-        due.done(x, by + ": turn", x.because(0), turn);
-        due.done(x, by + ": axis", x.because(1), axis);
-        due.done(x, by + ": wheel", x.because(2), wheel);
-        due.done(x, by + ": kind", x.because(3), kind);
     }
 
     private static void explainsEveryKind() {

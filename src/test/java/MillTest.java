@@ -1,7 +1,5 @@
 /** Promises 19 to 25: feed, cards, fault, run, ran, printed, place. */
-final class MillTest {
-    private static final Due due = new Due();
-
+final class MillTest extends MillAsks {
     public static void main(String[] args) {
         feeds();
         readsCards();
@@ -20,35 +18,6 @@ final class MillTest {
         countsCranks();
         refuses();
         due.end();
-    }
-
-    private static void good(String text, int count) {
-        WheelTables x = new WheelTables();
-        due.done(x, "cards of '" + text + "'", Works.cards(x, text), count);
-        due.is("fault(0) of '" + text + "'", x.fault(0), 0);
-        due.is("fault(1) of '" + text + "'", x.fault(1), -1);
-    }
-
-    private static void faulty(String text, int kind, int place) {
-        WheelTables x = new WheelTables();
-        due.refused(x, "cards of '" + text + "'", Works.cards(x, text), 10);
-        due.is("fault(0) of '" + text + "'", x.fault(0), kind);
-        due.is("fault(1) of '" + text + "'", x.fault(1), place);
-    }
-
-    private static WheelTables ran(String text, int prints) {
-        WheelTables x = new WheelTables();
-        Works.cards(x, text);
-        due.is("status() of '" + text + "'", x.status(), 0);
-        due.done(x, "run of '" + text + "'", x.run(), prints);
-        return x;
-    }
-
-    private static void account(WheelTables x, String of, int cranks, int alarm, int card, int done) {
-        due.done(x, of + ": cranks", x.ran(0), cranks);
-        due.done(x, of + ": alarm", x.ran(1), alarm);
-        due.done(x, of + ": card", x.ran(2), card);
-        due.done(x, of + ": cards done", x.ran(3), done);
     }
 
     private static void feeds() {

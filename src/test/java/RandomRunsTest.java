@@ -35,6 +35,7 @@ final class RandomRunsTest {
             new RandomRunsTest(due, "all " + i, more + 9000 + i).all();
         }
         for (int i = 0; i < 8 * times; i++) {
+            new RandomRunsTest(due, "long sheets " + i, more + 2800 + i).explanationsOfLongSheets();
             new RandomRunsTest(due, "errata " + i, more + 6000 + i).errata();
         }
         due.end();
@@ -326,6 +327,38 @@ final class RandomRunsTest {
             sheet(0, 2, 9);
             set(0, 1, axes);
             explain(0, 2, 9);
+        }
+    }
+
+    /** Up to sixty rows of engines with up to twelve wheels, far along in their turns, and radixes of all kinds. */
+    private void explanationsOfLongSheets() {
+        begin();
+        int axes = from(2, 7);
+        int wheels = from(7, 12);
+        tray(0, 0, wheels);
+        for (int i = 0; i < wheels; i++) {
+            write(0, i, from(2, 12));
+        }
+        engine(axes, wheels, 0);
+        while (goesOn()) {
+            int rows = chance(30) ? 60 : from(11, 60);
+            int ahead = chance(30) ? 1000 - rows : from(1, 200);
+            int late = chance(50) ? rows : from(1, rows);
+            fillTray(1, 3, axes, chance(50) ? 1000 : 1000000000);
+            same("mend(0)", x.mend(0), plain.mend(0));
+            goTo(ahead, axes);
+            mishap(0, ahead + late, from(0, axes - 2), from(0, wheels - 1), from(0, 2));
+            tray(2, from(0, 3), rows);
+            sheet(0, 2, rows);
+            goTo(ahead, axes);
+            explain(0, 2, rows);
+        }
+    }
+
+    private void goTo(int turns, int n) {
+        set(0, 1, n);
+        for (int left = turns; left > 0; left -= 200) {
+            turn(0, Math.min(left, 200));
         }
     }
 

@@ -1,7 +1,6 @@
 /** The edges of LEAST turns and ERRATA, sentence by sentence: promises 26 to 29, and their "Terms". */
-final class TurnsErrataEdgesTest {
+final class TurnsErrataEdgesTest extends TableAsks {
     private static final int[] POWERS = {1, 10, 100, 1000, 10000, 100000, 1000000, 10000000};
-    private static final Due due = new Due();
 
     public static void main(String[] args) {
         numbersInReach();
@@ -100,22 +99,6 @@ final class TurnsErrataEdgesTest {
         figures(new WheelTables(), 555555555555L, -5, -4, -4, -4, -4, -4, -4, -4, -4, -4, -4, -4, 1);
         figures(new WheelTables(), 550000000000L, 0, 0, 0, 0, 0, 0, 0, 0, 0, 0, 5, 5);
         figures(new WheelTables(), 650000000000L, 0, 0, 0, 0, 0, 0, 0, 0, 0, 0, -5, -3, 1);
-    }
-
-    private static WheelTables table(long... values) {
-        WheelTables x = new WheelTables();
-        Works.fill(x, 0, 3, values);
-        return x;
-    }
-
-    /** The findings: number and value, number and value. */
-    private static void found(WheelTables x, int... want) {
-        for (int j = 0; j < want.length / 2; j++) {
-            due.done(x, "number " + j, x.right(j, 0), want[2 * j]);
-            due.done(x, "value " + j, x.right(j, 1), want[2 * j + 1]);
-        }
-        due.refused(x, "no more", x.right(want.length / 2, 0), 8);
-        due.refused(x, "no more", x.right(want.length / 2, 1), 8);
     }
 
     private static void tablesInReach() {

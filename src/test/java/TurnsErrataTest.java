@@ -1,7 +1,5 @@
 /** Promises 26 to 29: turns, turnsAt, errata, right. */
-final class TurnsErrataTest {
-    private static final Due due = new Due();
-
+final class TurnsErrataTest extends TableAsks {
     public static void main(String[] args) {
         turns();
         refusesTurns();
@@ -55,21 +53,6 @@ final class TurnsErrataTest {
         due.refused(x, "turnsAt(1,000,000,000,000, 0)", x.turnsAt(1000000000000L, 0), 5);
         due.refused(x, "turnsAt(5, -1)", x.turnsAt(5, -1), 5);
         due.refused(x, "turnsAt(5, 13)", x.turnsAt(5, 13), 5);
-    }
-
-    private static WheelTables table(long... values) {
-        WheelTables x = new WheelTables();
-        Works.fill(x, 0, 3, values);
-        return x;
-    }
-
-    /** The findings: number and value, number and value. */
-    private static void found(WheelTables x, int... want) {
-        for (int j = 0; j < want.length / 2; j++) {
-            due.done(x, "number " + j, x.right(j, 0), want[2 * j]);
-            due.done(x, "value " + j, x.right(j, 1), want[2 * j + 1]);
-        }
-        due.refused(x, "no more", x.right(want.length / 2, 0), 8);
     }
 
     private static void findsNone() {
